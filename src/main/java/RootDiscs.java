@@ -633,20 +633,24 @@ public final class RootDiscs {
         return most;
     }
 
+    /** A reader lets no deeper block through; the guard is there so that this can be seen here. */
     private void runBlock(int from, int to, int depth) {
         if (depth > Script.MOST_DEPTH) {
             return;
         }
         for (int i = from; i < to && !script.isOver; i++) {
             if (script.verbOf(i) == Verb.REPEAT) {
-                int end = script.endOf(i);
-                for (int time = 0; time < script.aOf(i) && !script.isOver; time++) {
-                    runBlock(i + 1, end, depth + 1);
-                }
-                i = end - 1 > i ? end - 1 : i;
+                runRepeat(i, depth);
+                i = Math.max(i, script.endOf(i) - 1);
             } else {
                 script.tally(obey(script.verbOf(i), script.aOf(i), script.bOf(i), script.cOf(i)));
             }
+        }
+    }
+
+    private void runRepeat(int i, int depth) {
+        for (int time = 0; time < script.aOf(i) && !script.isOver; time++) {
+            runBlock(i + 1, script.endOf(i), depth + 1);
         }
     }
 
