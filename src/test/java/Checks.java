@@ -1,7 +1,8 @@
 import java.io.IOException;
 import java.nio.file.Files;
 import java.nio.file.Path;
-import java.util.TreeSet;
+import java.util.Map;
+import java.util.TreeMap;
 
 /** How a test asks an object, and how it tells what is wrong. */
 abstract class Checks {
@@ -16,7 +17,7 @@ abstract class Checks {
     static int checks;
     static int wrong;
     private static String document;
-    private static final TreeSet<Integer> TOLD = new TreeSet<>();
+    private static final Map<Integer, String> TOLD = new TreeMap<>();
 
     interface Call {
         Object go();
@@ -33,26 +34,29 @@ abstract class Checks {
     /** Names the promise that the next checks are for, and the sentence, which the document must hold. */
     static void about(int ofPromise, String sentence) {
         promise = ofPromise;
-        TOLD.add(ofPromise);
-        if (document == null) {
-            document = read(Path.of("../shared/DOC.md"));
-        }
+        TOLD.merge(ofPromise, sentence, (a, b) -> a + " " + b);
         checks++;
-        if (!document.isEmpty() && !document.contains(sentence.replaceAll("\\s+", " "))) {
+        if (!document().isEmpty() && !document().contains(sentence)) {
             wrong(" the document does not say: " + sentence);
         }
     }
 
-    private static String read(Path path) {
-        try {
-            return Files.exists(path) ? Files.readString(path).replaceAll("\\s+", " ") : "";
-        } catch (IOException e) {
-            return "";
+    /** The document in one line, or nothing where it can not be read. */
+    static String document() {
+        if (document == null) {
+            Path path = Path.of("../shared/DOC.md");
+            try {
+                document = Files.exists(path) ? Files.readString(path).replaceAll("\\s+", " ") : "";
+            } catch (IOException e) {
+                document = "";
+            }
         }
+        return document;
     }
 
-    static TreeSet<Integer> told() {
-        return TOLD;
+    /** All sentences that tests were about, of one promise; null if there are none. */
+    static String told(int ofPromise) {
+        return TOLD.get(ofPromise);
     }
 
     static void is(long due, long got) {
