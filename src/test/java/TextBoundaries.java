@@ -413,6 +413,14 @@ final class TextBoundaries extends Checks {
         error("poly 1 2 3 4 5 6 7 100;", 1, 19);
         error("poly 1 2 3 4 5 6 7 x;", 1, 19);
         error("poly 1 2 3 4 5 6 0 0;", 1, 19);
+        // The first token of an eighth S is told, whatever follows, and blanks ahead of it are no part of it.
+        error("poly 1 2 3 4 5 6 7 - 8;", 1, 19);
+        error("poly 1 2 3 4 5 6 7-8;", 1, 18);
+        error("poly 1 2 3 4 5 6 7 \n -\n100;", 1, 21);
+        error("poly 1 2 3 4 5 6 7 12345;", 1, 19);
+        error("poly -1 -2 -3 -4 -5 -6 -7 -8", 1, 26);
+        error("poly -1 -2 -3 -4 -5 -6 -7 -8 -9;at 999", 1, 26);
+        reads("poly -1 -2 -3 -4 -5 -6 -7;pair 0 1;pair 0 1;pair 0 1;", 6);
     }
 
     static void pointsTold() {
@@ -497,6 +505,59 @@ final class TextBoundaries extends Checks {
         error("poly 1", 1, 6);
         error("poly", 1, 4);
         error("", 1, 0);
+    }
+
+    static void textsThatEndTooEarly() {
+        about(7, "the index of the first byte of a token, or the length of the text if it ends too early");
+        String[] tokens = {"poly", "-", "1", "2", "-", "3", "1", ";", "at", "-", "5", "6", ";", "goal", "9", ";",
+            "pair", "-", "7", "8", ";"};
+        // Each start of it, with and without blanks behind: a statement that ends is 5, one that does not is 1.
+        String start = "";
+        for (int i = 0; i <= tokens.length; i++) {
+            boolean isWhole = start.endsWith(";");
+            for (String blanks : new String[] {"", " ", "\n", "  \n "}) {
+                String text = start + blanks;
+                if (i == tokens.length) {
+                    reads(text, 3);
+                } else {
+                    error(text, isWhole ? 5 : 1, text.length());
+                }
+            }
+            start += i == tokens.length ? "" : " " + tokens[i];
+        }
+        // With enough points an end within a statement is an error, too, and the only one.
+        for (String more : new String[] {"goal", "goal 5"}) {
+            error(ONE + more, 1, ONE.length() + more.length());
+            error(ONE + more + "\n", 1, ONE.length() + more.length() + 1);
+        }
+        error("poly 1 1;at 0 0", 1, 15);
+        error("poly 1 1 1;pair 0 1 ", 1, 20);
+    }
+
+    static void scriptsThatEndTooEarly() {
+        about(7, "the length of the text if it ends too early");
+        String[] tokens = {"refine", "0", ";", "repeat", "2", "(", "move", "1", "-", "5", "6", ";", "repeat", "3", "(",
+            "sweep", ";", ")", ";", ")", ";", "divide", "-", "1", "pair", "2", ";", "start", ";"};
+        String start = "";
+        int open = 0;
+        for (int i = 0; i <= tokens.length; i++) {
+            boolean isWhole = open == 0 && (start.isEmpty() || start.endsWith(";"));
+            for (String blanks : new String[] {"", " ", "\n", "  \n "}) {
+                String script = start + blanks;
+                if (isWhole) {
+                    RootDiscs d = put(new RootDiscs(), script);
+                    is(true, d.runScript() >= 0);
+                    is(0, d.errorCode());
+                    is(NONE, d.errorPosition());
+                } else {
+                    scriptError(script, 1, script.length());
+                }
+            }
+            if (i < tokens.length) {
+                open += tokens[i].equals("(") ? 1 : tokens[i].equals(")") ? -1 : 0;
+                start += " " + tokens[i];
+            }
+        }
     }
 
     static void morePoints() {
